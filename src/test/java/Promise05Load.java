@@ -78,6 +78,9 @@ public final class Promise05Load {
         x.map(-1024, 1, 11, true);
         c.due("the others' right", x.load(-1024, true), 0);
         c.looks("the others' right", x, 1, 3, -1024, 0, 1, 0);
+        x.set(32, 3);
+        c.due("data is not mapped", x.load(1024, true), 51);
+        c.looks("data is not mapped", x, 1, 3, -1024, 0, 2, 0);
     }
 
     private static void codeMapsDoNotServe(Checks c) {

@@ -77,5 +77,8 @@ public final class Promise06Store {
         c.due("the others' right", x.store(-1, 82, false), -1);
         c.looks("the others' right", x, 1, 3, -1, 0, 0, 1);
         c.due("the word", x.word(65532), 81);
+        x.set(32, 3);
+        c.due("data is not mapped", x.store(65532, 83, true), 65532);
+        c.looks("data is not mapped", x, 1, 3, -1, 0, 0, 2);
     }
 }
