@@ -13,17 +13,20 @@ public final class Face {
         "int store[int, int, boolean]", "int find[int, int, boolean]", "int map[int, int, int, boolean]",
         "int forget[boolean]", "int special[int]", "int word[int]", "int look[int]"));
 
-    public static void main(String[] args) {
+    public static void main(String[] args) throws Exception {
         Checks c = new Checks();
         c.due("public final", SoftMaps.class.getModifiers(), Modifier.PUBLIC | Modifier.FINAL);
         methods(c);
         fields(c);
+        none(c);
         Constructor<?>[] constructors = SoftMaps.class.getDeclaredConstructors();
         c.due("constructors", constructors.length, 1);
         c.due("its modifiers", constructors[0].getModifiers(), Modifier.PUBLIC);
         c.due("its parameters", constructors[0].getParameterCount(), 0);
         for (Class<?> inside : SoftMaps.class.getDeclaredClasses()) {
-            c.due(inside + " is static", Modifier.isStatic(inside.getModifiers()), true);
+            int mod = inside.getModifiers();
+            c.due(inside + " is static", Modifier.isStatic(mod), true);
+            c.due(inside + " is open", Modifier.isPublic(mod) || Modifier.isProtected(mod), false);
         }
         c.end();
     }
@@ -52,5 +55,12 @@ public final class Face {
             c.due(f + " is private", Modifier.isPrivate(mod), !f.getName().equals("NONE"));
             c.due(f + " is final if static", !Modifier.isStatic(mod) || Modifier.isFinal(mod), true);
         }
+    }
+
+    private static void none(Checks c) throws Exception {
+        Field none = SoftMaps.class.getDeclaredField("NONE");
+        c.due("NONE's modifiers", none.getModifiers(), Modifier.PUBLIC | Modifier.STATIC | Modifier.FINAL);
+        c.due("NONE is an int", none.getType() == int.class, true);
+        c.due("NONE", SoftMaps.NONE, -1);
     }
 }
